@@ -1,0 +1,103 @@
+import java.io.IOException;
+import java.lang.reflect.Constructor;
+import java.lang.reflect.Field;
+import java.lang.reflect.Method;
+import java.lang.reflect.Modifier;
+import java.nio.file.Files;
+import java.nio.file.Path;
+import java.util.Arrays;
+import java.util.Set;
+import java.util.TreeSet;
+
+/** The class shows the document's face and nothing else, and its source keeps to what LANGUAGE.md leaves. */
+public final class FaceTest {
+    private static final Check CHECK = new Check("face");
+
+    private static final String[] METHODS = {
+        "int sheet(int,int,int)", "int lose(int)", "int put(int,int,int,int)", "int get(int,int,int)",
+        "int copy(int,int,int,int,int)", "int term(int,int)", "int degree(int)", "int value(int,int,int)",
+        "int join(int,int,int,int)", "int mix(int,int,int,int,int,int)", "int change(int,int,int)",
+        "int overlap(int,int,int,int)", "int alike(int,int)", "int roots(int)", "int root(int,int)",
+        "int common(int,int,int)", "int result(int,int)", "int powers(int,int,int,int)",
+        "int build(int,int,int,int,int)", "int rank(int,int)", "int leads(int,int,int)",
+        "int lead(int,int,int,int)", "int staying(int,int,int)", "int count(int)", "long digest()"};
+
+    private static final String[] WORDS_LEFT_OUT = {
+        "throw", "try", "catch", "synchronized", "assert", "import", "package", "protected", "\\w*Exact", "native"};
+
+    public static void main(String[] args) throws IOException {
+        CHECK.holds("public and final", FormsOfTwo.class.getModifiers() == (Modifier.PUBLIC | Modifier.FINAL));
+        methods();
+        constructors();
+        fields();
+        classesInside();
+        CHECK.holds("the source is told", args.length == 1);
+        if (args.length == 1) {
+            source(Files.readString(Path.of(args[0])));
+        }
+        CHECK.end();
+    }
+
+    private static String told(Method method) {
+        StringBuilder text = new StringBuilder(method.getReturnType() + " " + method.getName() + "(");
+        for (Class<?> type : method.getParameterTypes()) {
+            text.append(text.charAt(text.length() - 1) == '(' ? "" : ",").append(type);
+        }
+        return text.append(")").toString();
+    }
+
+    private static void methods() {
+        Set<String> seen = new TreeSet<>();
+        Set<String> names = new TreeSet<>();
+        for (Method method : FormsOfTwo.class.getDeclaredMethods()) {
+            if (!Modifier.isPrivate(method.getModifiers())) {
+                CHECK.holds(method + " is plainly public", method.getModifiers() == Modifier.PUBLIC);
+                seen.add(told(method));
+                names.add(method.getName());
+            }
+        }
+        CHECK.holds("the methods are " + seen, seen.equals(new TreeSet<>(Arrays.asList(METHODS))));
+        for (Method method : FormsOfTwo.class.getDeclaredMethods()) {
+            CHECK.holds(method + " has a name of its own",
+                !Modifier.isPrivate(method.getModifiers()) || !names.contains(method.getName()));
+            CHECK.holds(method + " takes seven at most", method.getParameterCount() <= 7);
+        }
+    }
+
+    private static void constructors() {
+        Constructor<?>[] all = FormsOfTwo.class.getDeclaredConstructors();
+        CHECK.holds("one constructor", all.length == 1 && all[0].getParameterCount() == 0
+            && Modifier.isPublic(all[0].getModifiers()));
+    }
+
+    private static void fields() {
+        Set<String> seen = new TreeSet<>();
+        for (Field field : FormsOfTwo.class.getDeclaredFields()) {
+            int modifiers = field.getModifiers();
+            CHECK.holds(field + " is final if static", !Modifier.isStatic(modifiers) || Modifier.isFinal(modifiers));
+            if (!Modifier.isPrivate(modifiers)) {
+                seen.add(field.toString());
+            }
+        }
+        CHECK.holds("the fields are " + seen, seen.equals(new TreeSet<>(Arrays.asList(
+            "public static final int FormsOfTwo.NONE", "public static final int FormsOfTwo.BAD",
+            "public static final int FormsOfTwo.NOT"))));
+    }
+
+    private static void classesInside() {
+        for (Class<?> inside : FormsOfTwo.class.getDeclaredClasses()) {
+            CHECK.holds(inside + " is static", Modifier.isStatic(inside.getModifiers()));
+            CHECK.holds(inside + " is hidden", !Modifier.isPublic(inside.getModifiers())
+                && !Modifier.isProtected(inside.getModifiers()));
+        }
+    }
+
+    private static void source(String text) {
+        String code = text.replaceAll("(?s)/\\*.*?\\*/", " ").replaceAll("//[^\n]*", " ");
+        for (String word : WORDS_LEFT_OUT) {
+            CHECK.holds("no " + word, !code.matches("(?s).*\\b" + word + "\\b.*"));
+        }
+        CHECK.holds("no lambda", !code.contains("->"));
+        CHECK.holds("no method reference", !code.contains("::"));
+    }
+}
