@@ -200,20 +200,7 @@ public final class FormsOfTwo {
 
     public int roots(int s) {
         int refusal = refuseRoots(s, s);
-        if (refusal != FINE) {
-            return refusal;
-        }
-        int n = load(s, first);
-        int from = 0;
-        // A form that is not nought has at most as many roots as its degree.
-        for (int count = 0; count < n; count++) {
-            int place = Rows.nextRoot(first, n, from);
-            if (place == NONE) {
-                return count;
-            }
-            from = place + 1;
-        }
-        return n;
+        return refusal != FINE ? refusal : findRoots(s);
     }
 
     public int root(int s, int i) {
@@ -224,16 +211,7 @@ public final class FormsOfTwo {
         if (refusal != FINE) {
             return refusal;
         }
-        int n = load(s, first);
-        int from = 0;
-        for (int count = 0; count < n; count++) {
-            int place = Rows.nextRoot(first, n, from);
-            if (place == NONE || count == i) {
-                return place;
-            }
-            from = place + 1;
-        }
-        return NONE;
+        return i < findRoots(s) ? third[i] : NONE;
     }
 
     public int common(int s, int t, int u) {
@@ -495,7 +473,7 @@ public final class FormsOfTwo {
         return count;
     }
 
-    // ---- making forms
+    // ---- working on rows: what they make stands in row made, if nothing else is said
 
     private static boolean canJoin(int m, int n, int what) {
         switch (what) {
@@ -554,6 +532,19 @@ public final class FormsOfTwo {
         int above = Numbers.factorial(m - k) * Numbers.factorial(n - k) % PRIME;
         int below = Numbers.factorial(m) * Numbers.factorial(n) % PRIME;
         Rows.multiply(made, above * Numbers.inverse(below) % PRIME);
+    }
+
+    /** How many roots there are; row third gets them. A form that is not nought has no more than its degree. */
+    private int findRoots(int s) {
+        int n = load(s, first);
+        int many = 0;
+        for (int place = 0; place <= PRIME && many < n; place++) {
+            if (Rows.valueAtPlace(first, n, place) == 0) {
+                third[many] = place;
+                many++;
+            }
+        }
+        return many;
     }
 
     /** The degree of what both have together; neither row is nought. */
@@ -628,7 +619,7 @@ public final class FormsOfTwo {
         int n = load(s, first);
         load(t, second);
         for (int v = 0; v <= n; v++) {
-            third[v] = Rows.valueAt(second, n, 1, v);
+            third[v] = Rows.valueAtPlace(second, n, v);
         }
         return n;
     }
@@ -915,18 +906,16 @@ public final class FormsOfTwo {
             return factor;
         }
 
-        /** The first place from one on where the form is 0, the prime being 0 : 1; NONE if there is none. */
-        static int nextRoot(int[] row, int n, int from) {
-            for (int v = from; v < PRIME; v++) {
-                int answer = row[n];
-                for (int i = n - 1; i >= 0; i--) {
-                    answer = (answer * v + row[i]) % PRIME;
-                }
-                if (answer == 0) {
-                    return v;
-                }
+        /** The value at 1 : v, and at 0 : 1 where v is the prime. */
+        static int valueAtPlace(int[] row, int n, int v) {
+            if (v == PRIME) {
+                return row[n];
             }
-            return from <= PRIME && row[n] == 0 ? PRIME : NONE;
+            int answer = row[n];
+            for (int i = n - 1; i >= 0; i--) {
+                answer = (answer * v + row[i]) % PRIME;
+            }
+            return answer;
         }
 
         /** Takes the zeros away before the first other number: the degree that is left, -1 for nought. */
