@@ -22,6 +22,15 @@ final class Check {
         due(what, so ? 1 : 0, 1);
     }
 
+    /** The sheet is a row of this kind and of just these items. Makes a finding, INDEX. */
+    void shows(String what, FormsOfTwo x, int s, int kind, int... items) {
+        for (int i = 0; i < items.length; i++) {
+            due(what + ": item " + i, x.get(s, kind, i), items[i]);
+        }
+        due(what + ": no further item", x.get(s, kind, items.length), Integer.MIN_VALUE);
+        due(what + ": count(1) after it", x.count(1), 2);
+    }
+
     void end() {
         System.out.println(name + ": " + asked + " answers, " + wrong + " not as due");
         if (wrong != 0) {

@@ -420,6 +420,11 @@ final class Model {
         return h.longValue();
     }
 
+    /** How many items there are if the sheet is of this kind; else -1. */
+    int sizeAs(int s, int kind) {
+        return rows[s] != null && kindOf(rows[s]) == kind ? Array.getLength(rows[s]) : -1;
+    }
+
     // ---- refusals
 
     private static boolean bad(int s) {

@@ -1,53 +1,70 @@
 import java.util.Random;
 
-/** Runs of random calls (always the same ones) on the class and on the model, which must answer alike. */
+/**
+ * Runs of random calls (always the same ones) on the class and on the model, which must answer alike. No run goes
+ * beyond the 512 calls that are promised.
+ */
 public final class ModelTest {
     private static final Check CHECK = new Check("model");
+    private static final int RUNS = 2500;
+    private static final int CALLS = 512;
+    // What compareAll asks at most, and a step before it.
+    private static final int KEPT_FOR_THE_END = 200, KEPT_FOR_A_STEP = 20;
     private static final int[] WIDE = {Integer.MIN_VALUE, Integer.MAX_VALUE, -1, 10006, 10007, 10008, -10007, 65536};
 
     private static Random random;
+    private static int calls;
     private static FormsOfTwo x;
     private static Model m;
 
     public static void main(String[] args) {
         everyStaying();
-        for (int run = 0; run < 600; run++) {
+        for (int run = 0; run < RUNS; run++) {
             random = new Random(run);
-            x = new FormsOfTwo();
-            m = new Model();
-            for (int call = 0; call < 200; call++) {
-                step("run " + run + ", call " + call + ": ");
+            begin();
+            while (calls + KEPT_FOR_A_STEP + KEPT_FOR_THE_END <= CALLS) {
+                String when = "run " + run + ", call " + calls + ": ";
+                step(when);
+                due(when, "count", x.count(1), m.count(1), 1);
+                due(when, "digest", x.digest(), m.digest());
             }
             compareAll("run " + run + ", at its end: ");
+            CHECK.holds("a run of " + calls + " calls", calls <= CALLS);
         }
         CHECK.end();
     }
 
-    private static void everyStaying() {
+    private static void begin() {
         x = new FormsOfTwo();
         m = new Model();
+        calls = 0;
+    }
+
+    private static void everyStaying() {
         for (int n = -1; n <= 9; n++) {
             for (int d = -1; d <= 9; d++) {
+                begin();
                 for (int e = -1; e <= 65; e++) {
-                    CHECK.due("staying(" + n + ", " + d + ", " + e + ")", x.staying(n, d, e), m.staying(n, d, e));
+                    due("", "staying", x.staying(n, d, e), m.staying(n, d, e), n, d, e);
                 }
             }
         }
     }
 
-    /** Every item of every kind, and all that is counted. */
+    /** Every kind of each sheet, every item and one beyond. */
     private static void compareAll(String when) {
-        CHECK.due(when + "digest()", x.digest(), m.digest());
-        for (int what = -1; what <= 3; what++) {
-            CHECK.due(when + "count(" + what + ")", x.count(what), m.count(what));
-        }
         for (int s = 0; s < 10; s++) {
             for (int kind = 0; kind < 3; kind++) {
-                for (int i = 0; i <= 12; i++) {
-                    CHECK.due(when + "get(" + s + ", " + kind + ", " + i + ")", x.get(s, kind, i), m.get(s, kind, i));
-                    CHECK.due(when + "count(1)", x.count(1), m.count(1));
+                due(when, "get", x.get(s, kind, 12), m.get(s, kind, 12), s, kind, 12);
+                due(when, "count", x.count(1), m.count(1), 1);
+                for (int i = 0; i <= m.sizeAs(s, kind); i++) {
+                    due(when, "get", x.get(s, kind, i), m.get(s, kind, i), s, kind, i);
                 }
             }
+        }
+        due(when, "digest", x.digest(), m.digest());
+        for (int what = -1; what <= 3; what++) {
+            due(when, "count", x.count(what), m.count(what), what);
         }
     }
 
@@ -71,9 +88,8 @@ public final class ModelTest {
     }
 
     private static void due(String when, String name, long got, long want, int... with) {
-        CHECK.due(when + name + java.util.Arrays.toString(with), got, want);
-        CHECK.due(when + "count(1) after " + name, x.count(1), m.count(1));
-        CHECK.due(when + "digest() after " + name, x.digest(), m.digest());
+        calls++;
+        CHECK.due(when + Board.told(name, with), got, want);
     }
 
     private static void step(String when) {
