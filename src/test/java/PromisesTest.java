@@ -18,6 +18,7 @@ public final class PromisesTest {
         mix();
         change();
         overlap();
+        overlapWhereLettersAreMixed();
         alike();
         roots();
         root();
@@ -292,6 +293,26 @@ public final class PromisesTest {
         lay(x, 8, 6);
         due("13 degree 0", x.overlap(8, 8, 0, 8), 0);
         shows("13 degree 0", x, 8, 36);
+    }
+
+    /** The overlap of two that are mixed is their overlap mixed, times the bottom k times. */
+    private static void overlapWhereLettersAreMixed() {
+        for (int k = 0; k <= 5; k++) {
+            FormsOfTwo x = with(of(3, -1, 4, 1, -5, 9), of(-2, 6, -5, 3, 5, -8));
+            due("13 where letters are mixed: bottom", x.mix(0, 2, -3, 5, -1, 2), 13);
+            due("13 where letters are mixed: bottom", x.mix(1, 2, -3, 5, -1, 3), 13);
+            int degree = 10 - 2 * k;
+            due("13 where letters are mixed", x.overlap(0, 1, k, 4), degree <= 8 ? degree : NOT);
+            if (degree <= 8) {
+                x.mix(4, 2, -3, 5, -1, 4);
+                due("13 where letters are mixed", x.overlap(2, 3, k, 5), degree);
+                int power = 1;
+                for (int j = 0; j < k; j++) {
+                    power = times(power, 13);
+                }
+                due("13 where letters are mixed", x.alike(4, 5), power);
+            }
+        }
     }
 
     private static int down(int n, int times) {

@@ -16,6 +16,9 @@ public final class TermsTest {
         numbersOfPlacesAndTables();
         numbersOfPowers();
         sumsAndProductsWrap();
+        highNumbersMixed();
+        highNumbersOverlapped();
+        highNumbersOfPowers();
         divisions();
         sheetsZeroToNine();
         rowsOfNoughtToTwelveItems();
@@ -32,11 +35,14 @@ public final class TermsTest {
         rootsOfEveryCount();
         greatestCommon();
         firstNumberOfCommon();
+        commonOfLines();
         resultsOfLowestAndHighest();
+        resultsOfLines();
         sumsOfPowers();
         powersUnlikeModuloP();
         squares();
         boundsOfLeads();
+        leadsOfBothLetters();
         orderOfLeads();
         waysOfTheLowestAndHighest();
         waysOfOddOnes();
@@ -58,6 +64,24 @@ public final class TermsTest {
 
     private static void shows(String what, FormsOfTwo x, int s, int... items) {
         CHECK.shows(what, x, s, 2, items);
+    }
+
+    /** The product of y less v x for so many v, from one on. */
+    private static int[] lines(int from, int many) {
+        int[] items = {1};
+        for (int v = from; v < from + many; v++) {
+            int[] more = new int[items.length + 1];
+            for (int i = 0; i < items.length; i++) {
+                more[i] = Reckon.number(more[i] - (long) v * items[i]);
+                more[i + 1] = items[i];
+            }
+            items = more;
+        }
+        return items;
+    }
+
+    private static int choose(int n, int i) {
+        return i == 0 || i == n ? 1 : choose(n - 1, i - 1) + choose(n - 1, i);
     }
 
     /** A form of degree n with 1 at one place. */
@@ -147,6 +171,64 @@ public final class TermsTest {
             for (int what = 2; what <= 3; what++) {
                 due("product", x.join(0, 1, 2, what), 0);
                 shows(a + " times " + b, x, 2, Reckon.times(a, b));
+            }
+        }
+    }
+
+    /** Numbers just below P, whose products would wrap an int if they were not taken modulo P at every step. */
+    private static void highNumbersMixed() {
+        for (int n = 0; n <= 8; n++) {
+            FormsOfTwo x = with(single(n, 0), single(n, n));
+            int[] power = new int[n + 1];
+            for (int i = 0; i <= n; i++) {
+                power[i] = Reckon.number((n % 2 == 0 ? 1 : -1) * choose(n, i) * (1 << i));
+            }
+            due("bottom", x.mix(0, -1, -2, 3, -4, 2), 10);
+            shows("x becomes -x less 2 y in x^" + n, x, 2, power);
+            due("bottom", x.mix(1, -3, 4, -1, -2, 2), 10);
+            shows("y becomes -x less 2 y in y^" + n, x, 2, power);
+            int at = 0;
+            for (int i = 0; i <= n; i++) {
+                at += power[i];
+            }
+            due("its value at 1, 1", x.value(2, 1, 1), at % P);
+            due("its value at -1, -1", x.value(2, -1, -1), n % 2 == 0 ? at % P : Reckon.number(-at));
+        }
+    }
+
+    /** OVERLAP n of two of degree n: the sum of a i times b (n - i) by (n over i), signs changing. */
+    private static void highNumbersOverlapped() {
+        for (int n = 0; n <= 8; n++) {
+            int[] f = new int[n + 1];
+            int[] g = new int[n + 1];
+            int sum = 0;
+            for (int i = 0; i <= n; i++) {
+                f[i] = -1 - i;
+                g[i] = -7 - 3 * i;
+            }
+            for (int i = 0; i <= n; i++) {
+                int term = Reckon.part(Reckon.times(f[i], g[n - i]), choose(n, i));
+                sum = Reckon.number(i % 2 == 0 ? sum + term : sum - term);
+            }
+            FormsOfTwo x = with(f, g);
+            due("overlap " + n, x.overlap(0, 1, n, 2), 0);
+            shows("overlap " + n, x, 2, sum);
+        }
+    }
+
+    private static void highNumbersOfPowers() {
+        int[] r = {0, 10006, 10005, 5004, 9999, 77, 10000, 8545, 1};
+        int[] c = {10006, 10004, 9990, 5003, 10003, 10006, 9000, 8000, 10005};
+        for (int n = 0; n <= 8; n++) {
+            for (int many = 1; many <= n + 1; many++) {
+                FormsOfTwo x = with(r, c);
+                due("build", x.build(0, 1, many, n, 2), n);
+                for (int k = 0; k <= n; k++) {
+                    due("rank " + k + " of " + many + " powers of degree " + n, x.rank(2, k),
+                        Math.min(many, Math.min(k, n - k) + 1));
+                }
+                due("powers", x.powers(2, 0, many, 3), many);
+                shows(many + " powers of degree " + n, x, 3, java.util.Arrays.copyOf(c, many));
             }
         }
     }
@@ -538,6 +620,19 @@ public final class TermsTest {
         }
     }
 
+    /** Two of degree 8 that share none of their roots, one of them .. all of them. */
+    private static void commonOfLines() {
+        for (int shared = 0; shared <= 8; shared++) {
+            FormsOfTwo x = with(lines(1, 8), lines(9 - shared, 8), lines(9 - shared, shared));
+            String told = "roots 1 to 8 and " + (9 - shared) + " to " + (16 - shared);
+            for (int s = 0; s <= 1; s++) {
+                due(told, x.common(s, 1 - s, 3), shared);
+                CHECK.holds(told + ": the shared ones", x.alike(3, 2) > 0);
+                due(told + ": the first number", x.term(3, 0), 1);
+            }
+        }
+    }
+
     // ---- "THE RESULT of f (m) and g (n), both of DEGREE 1 or more"
 
     private static void resultsOfLowestAndHighest() {
@@ -564,6 +659,28 @@ public final class TermsTest {
         due("with NOUGHT", y.result(0, 1), 0);
         due("lines", y.result(0, 2), 2);
         due("lines, back", y.result(2, 0), 10005);
+    }
+
+    /** The result of products of lines is the product of the lines' results, and the next result starts anew. */
+    private static void resultsOfLines() {
+        for (int m = 1; m <= 8; m++) {
+            for (int n = 1; n <= 8; n++) {
+                FormsOfTwo x = with(lines(1, 8), lines(9, 8), lines(1, m), lines(9, n));
+                due("the highest", x.result(0, 1), lineResults(8, 8));
+                due("degrees " + m + " and " + n + " after it", x.result(2, 3), lineResults(m, n));
+            }
+        }
+    }
+
+    /** y less v x for v from 1 on and from 9 on: -v and w for each two. */
+    private static int lineResults(int m, int n) {
+        int product = 1;
+        for (int v = 1; v <= m; v++) {
+            for (int w = 9; w < 9 + n; w++) {
+                product = product * (w - v) % P;
+            }
+        }
+        return product;
     }
 
     // ---- "POWERS: for k unlike numbers (k 1 to n and 1)"
@@ -637,6 +754,36 @@ public final class TermsTest {
         due("NOUGHT to another", x.leads(6, 0, 2), 0);
         FormsOfTwo y = with(of(1, 1), of(1 + P, 1 - P));
         due("modulo P", y.leads(0, 1, 1), y.leads(0, 0, 1));
+    }
+
+    /** From x and from y to p x and q y: the other letter may become all that leaves a BOTTOM. */
+    private static void leadsOfBothLetters() {
+        for (int p = -2; p <= 2; p++) {
+            for (int q = -2; q <= 2; q++) {
+                int others = 0;
+                for (int v = -2; v <= 2; v++) {
+                    for (int w = -2; w <= 2; w++) {
+                        others += p * w != q * v ? 1 : 0;
+                    }
+                }
+                FormsOfTwo x = with(of(1, 0), of(0, 1), of(p, q));
+                due("from x to " + p + ", " + q, x.leads(0, 2, 2), others);
+                due("from y to " + p + ", " + q, x.leads(1, 2, 2), others);
+                leadsOfSquare(p, q);
+            }
+        }
+    }
+
+    /** From x y^2, where x becomes 2 x less y, and y becomes p x and q y or the same with signs changed. */
+    private static void leadsOfSquare(int p, int q) {
+        FormsOfTwo x = with(of(0, 0, 1, 0));
+        if (x.mix(0, 2, -1, p, q, 1) != 0) {
+            int some = 4100 + 10 * (p + 2) + q + 2;
+            int same = 4100 + 10 * (2 - p) + 2 - q;
+            due("from x y^2", x.leads(0, 1, 2), 2);
+            due("from x y^2", x.lead(0, 1, 2, 0), Math.min(some, same));
+            due("from x y^2", x.lead(0, 1, 2, 1), Math.max(some, same));
+        }
     }
 
     /** "in order of a, then b, c, d, from -B on" */
