@@ -111,6 +111,21 @@ public final class RefusalsTest {
         each(NOT, place, NO_FORMS, call, with);
     }
 
+    /** Two that are asked and must be forms: no sheet before NULL and NOT of the other, NULL before NOT of the other. */
+    private static void asksForms(int place, int other, String call, int... with) {
+        asksForm(place, call, with);
+        asksForm(other, call, with);
+        for (int[] places : new int[][] {{place, other}, {other, place}}) {
+            each(BAD, places[0], Board.of(-1, 10), call, instead(places[1], LOST, with));
+            refused(NULL, call, instead(places[0], LOST, instead(places[1], LOST, with)));
+            for (int noForm : NO_FORMS) {
+                int[] there = instead(places[1], noForm, with);
+                each(BAD, places[0], Board.of(-1, 10), call, there);
+                refused(NULL, call, instead(places[0], LOST, there));
+            }
+        }
+    }
+
     /** A sheet that becomes something: the same, wherever it is; it may be LOST before. */
     private static void makesSheet(int place, String call, int... with) {
         each(BAD, place, Board.of(-1, 10, LEAST, MOST), call, with);
@@ -309,17 +324,11 @@ public final class RefusalsTest {
 
     private static void join() {
         for (int what = 0; what <= 3; what++) {
-            asksForm(0, "join", SQUARE, SHORTS, NUMBER, what);
-            asksForm(1, "join", SQUARE, SHORTS, NUMBER, what);
+            asksForms(0, 1, "join", SQUARE, SHORTS, NUMBER, what);
             makesSheet(2, "join", SQUARE, SHORTS, NUMBER, what);
-            // no sheet u before NULL and NOT; NULL before NOT
+            // no sheet u before NULL and NOT
             each(BAD, 2, Board.of(-1, 10), "join", LOST, SHORTS, NUMBER, what);
             each(BAD, 2, Board.of(-1, 10), "join", SQUARE, EMPTY, NUMBER, what);
-            refused(NULL, "join", LOST, TEN, NUMBER, what);
-            refused(NULL, "join", EMPTY, LOST, NUMBER, what);
-            // no sheet before NULL of the other
-            each(BAD, 0, Board.of(-1, 10), "join", SQUARE, LOST, NUMBER, what);
-            each(BAD, 1, Board.of(-1, 10), "join", LOST, SQUARE, NUMBER, what);
         }
         each(BAD, 3, Board.of(-1, 4, LEAST, MOST), "join", SQUARE, SHORTS, NUMBER, 0);
         each(BAD, 3, Board.of(-1, 4), "join", LOST, SHORTS, NUMBER, 0);
@@ -374,8 +383,7 @@ public final class RefusalsTest {
 
     private static void overlap() {
         for (int k = 0; k <= 2; k++) {
-            asksForm(0, "overlap", SQUARE, SHORTS, k, NUMBER);
-            asksForm(1, "overlap", SQUARE, SHORTS, k, NUMBER);
+            asksForms(0, 1, "overlap", SQUARE, SHORTS, k, NUMBER);
             makesSheet(3, "overlap", SQUARE, SHORTS, k, NUMBER);
         }
         each(BAD, 2, Board.of(-1, 9, LEAST, MOST), "overlap", LONGEST, LONGEST, 8, LOST);
@@ -390,7 +398,7 @@ public final class RefusalsTest {
         refused(NOT, "overlap", LINE, LONGEST, 2, LOST);
         refused(NOT, "overlap", NUMBER, NUMBER, 1, LOST);
         makes(LOST, 0, "overlap", NUMBER, NUMBER, 0, LOST);
-        // no k and no sheet u before NULL and NOT; NULL before NOT
+        // no k and no sheet u before NULL and NOT; NULL before k above DEGREE
         each(BAD, 2, Board.of(-1, 9), "overlap", LOST, SQUARE, 0, SHORTS);
         each(BAD, 2, Board.of(-1, 9), "overlap", SQUARE, EMPTY, 0, SHORTS);
         each(BAD, 2, Board.of(-1, 9), "overlap", NUMBER, LINE, 0, SHORTS);
@@ -398,18 +406,13 @@ public final class RefusalsTest {
         each(BAD, 3, Board.of(-1, 10), "overlap", TEN, SQUARE, 0, SHORTS);
         each(BAD, 3, Board.of(-1, 10), "overlap", LINE, SQUARE, 2, SHORTS);
         each(BAD, 3, Board.of(-1, 10), "overlap", LONGEST, LINE, 0, SHORTS);
-        refused(NULL, "overlap", LOST, FULL, 0, SHORTS);
-        refused(NULL, "overlap", FULL, LOST, 0, SHORTS);
         refused(NULL, "overlap", NUMBER, LOST, 8, SHORTS);
-        each(BAD, 0, Board.of(-1, 10), "overlap", SQUARE, LOST, 0, SHORTS);
-        each(BAD, 1, Board.of(-1, 10), "overlap", LOST, SQUARE, 0, SHORTS);
+        refused(NULL, "overlap", LOST, NUMBER, 8, SHORTS);
     }
 
     private static void alike() {
-        asksForm(0, "alike", SQUARE, SQUARE);
-        asksForm(1, "alike", SQUARE, SQUARE);
-        asksForm(0, "alike", LINE, SQUARE);
-        asksForm(1, "alike", LINE, SQUARE);
+        asksForms(0, 1, "alike", SQUARE, SQUARE);
+        asksForms(0, 1, "alike", LINE, SQUARE);
         reads(1, "alike", SQUARE, SQUARE);
         reads(1, "alike", LONGEST, LONGEST);
         reads(1, "alike", NUMBER, NUMBER);
@@ -418,13 +421,6 @@ public final class RefusalsTest {
         reads(0, "alike", SQUARE, NOUGHT);
         reads(0, "alike", SQUARE, LINE);
         reads(0, "alike", LINE, NOUGHT);
-        // no sheet before NULL and NOT of the other; NULL before NOT
-        each(BAD, 0, Board.of(-1, 10), "alike", 0, LOST);
-        each(BAD, 1, Board.of(-1, 10), "alike", LOST, 0);
-        each(BAD, 0, Board.of(-1, 10), "alike", 0, EMPTY);
-        each(BAD, 1, Board.of(-1, 10), "alike", EMPTY, 0);
-        refused(NULL, "alike", LOST, TEN);
-        refused(NULL, "alike", TEN, LOST);
     }
 
     // ---- roots
@@ -454,8 +450,7 @@ public final class RefusalsTest {
     }
 
     private static void common() {
-        asksForm(0, "common", SQUARE, SHORTS, NUMBER);
-        asksForm(1, "common", SQUARE, SHORTS, NUMBER);
+        asksForms(0, 1, "common", SQUARE, SHORTS, NUMBER);
         makesSheet(2, "common", SQUARE, SQUARE, NUMBER);
         refused(NOT, "common", NOUGHT, SQUARE, NUMBER);
         refused(NOT, "common", SQUARE, NOUGHT, NUMBER);
@@ -463,34 +458,27 @@ public final class RefusalsTest {
         makes(LOST, 0, "common", NUMBER, NUMBER, LOST);
         makes(LOST, 0, "common", NUMBER, LONGEST, LOST);
         makes(LOST, 8, "common", LONGEST, LONGEST, LOST);
-        // no sheet u before NULL, NOT, and NOUGHT; NULL before NOT and NOUGHT
+        // no sheet before NULL, NOT, and NOUGHT; NULL before NOUGHT
         each(BAD, 2, Board.of(-1, 10), "common", LOST, SQUARE, NUMBER);
         each(BAD, 2, Board.of(-1, 10), "common", SQUARE, EMPTY, NUMBER);
         each(BAD, 2, Board.of(-1, 10), "common", NOUGHT, SQUARE, NUMBER);
-        each(BAD, 0, Board.of(-1, 10), "common", SQUARE, LOST, NUMBER);
-        each(BAD, 1, Board.of(-1, 10), "common", LOST, SQUARE, NUMBER);
-        refused(NULL, "common", LOST, TEN, NUMBER);
-        refused(NULL, "common", TEN, LOST, NUMBER);
+        each(BAD, 0, Board.of(-1, 10), "common", SQUARE, NOUGHT, NUMBER);
+        each(BAD, 1, Board.of(-1, 10), "common", NOUGHT, SQUARE, NUMBER);
         refused(NULL, "common", LOST, NOUGHT, NUMBER);
         refused(NULL, "common", NOUGHT, LOST, NUMBER);
     }
 
     private static void result() {
-        asksForm(0, "result", LINE, SQUARE);
-        asksForm(1, "result", LINE, SQUARE);
+        asksForms(0, 1, "result", LINE, SQUARE);
         refused(NOT, "result", NUMBER, SQUARE);
         refused(NOT, "result", SQUARE, NUMBER);
         refused(NOT, "result", NUMBER, NUMBER);
         reads(0, "result", LINE, LINE);
         reads(0, "result", LONGEST, LONGEST);
         reads(0, "result", NOUGHT, LINE);
-        // no sheet before NULL and NOT of the other; NULL before NOT and DEGREE 0
-        each(BAD, 0, Board.of(-1, 10), "result", 0, LOST);
-        each(BAD, 1, Board.of(-1, 10), "result", LOST, 0);
-        each(BAD, 0, Board.of(-1, 10), "result", 0, TEN);
-        each(BAD, 1, Board.of(-1, 10), "result", NUMBER, 0);
-        refused(NULL, "result", LOST, EMPTY);
-        refused(NULL, "result", EMPTY, LOST);
+        // no sheet, and NULL, before DEGREE 0 of the other
+        each(BAD, 0, Board.of(-1, 10), "result", LINE, NUMBER);
+        each(BAD, 1, Board.of(-1, 10), "result", NUMBER, LINE);
         refused(NULL, "result", LOST, NUMBER);
         refused(NULL, "result", NUMBER, LOST);
     }
@@ -534,7 +522,9 @@ public final class RefusalsTest {
         each(BAD, 3, Board.of(-1, 10), "powers", SQUARE, LINE, 3, SHORTS);
         each(BAD, 3, Board.of(-1, 10), "powers", SQUARE, NOUGHT, 3, SHORTS);
         each(BAD, 0, Board.of(-1, 10), "powers", SQUARE, LOST, 3, SHORTS);
+        each(BAD, 0, Board.of(-1, 10), "powers", SQUARE, EMPTY, 3, SHORTS);
         each(BAD, 1, Board.of(-1, 10), "powers", LOST, FULL, 3, SHORTS);
+        each(BAD, 1, Board.of(-1, 10), "powers", TEN, FULL, 3, SHORTS);
         // NULL before NOT and INDEX
         refused(NULL, "powers", LOST, EMPTY, 1, SHORTS);
         refused(NULL, "powers", TEN, LOST, 1, SHORTS);
@@ -571,6 +561,9 @@ public final class RefusalsTest {
         each(BAD, 4, Board.of(-1, 10), "build", FULL, EMPTY, 3, 2, NUMBER);
         each(BAD, 0, Board.of(-1, 10), "build", FULL, LOST, 3, 2, NUMBER);
         each(BAD, 1, Board.of(-1, 10), "build", LOST, FULL, 3, 2, NUMBER);
+        each(BAD, 0, Board.of(-1, 10), "build", FULL, EMPTY, 3, 2, NUMBER);
+        each(BAD, 1, Board.of(-1, 10), "build", EMPTY, FULL, 3, 2, NUMBER);
+        each(BAD, 2, Board.of(-1, 13), "build", EMPTY, EMPTY, 3, 2, NUMBER);
         refused(NULL, "build", LOST, EMPTY, 1, 2, NUMBER);
         refused(NULL, "build", EMPTY, LOST, 1, 2, NUMBER);
         refused(NULL, "build", LOST, FULL, 0, 2, NUMBER);
@@ -596,27 +589,21 @@ public final class RefusalsTest {
     // ---- what stays
 
     private static void leads() {
-        asksForm(0, "leads", SHORTS, SHORTS, 1);
-        asksForm(1, "leads", SHORTS, SHORTS, 1);
+        asksForms(0, 1, "leads", SHORTS, SHORTS, 1);
         each(BAD, 2, Board.of(0, 3, -1, LEAST, MOST), "leads", SHORTS, SHORTS, 1);
         reads(48, "leads", NUMBER, NUMBER, 1);
         reads(496, "leads", NUMBER, NUMBER, 2);
         refused(NOT, "leads", SQUARE, LINE, 1);
         refused(NOT, "leads", LINE, SQUARE, 1);
         refused(NOT, "leads", LINE, NOUGHT, 1);
-        // no B before NULL, NOT, and unlike DEGREES; NULL before NOT
+        // no B before NULL, NOT, and unlike DEGREES
         each(BAD, 2, Board.of(0, 3), "leads", LOST, SQUARE, 1);
         each(BAD, 2, Board.of(0, 3), "leads", SQUARE, TEN, 1);
         each(BAD, 2, Board.of(0, 3), "leads", SQUARE, LINE, 1);
-        each(BAD, 0, Board.of(-1, 10), "leads", 0, LOST, 1);
-        each(BAD, 1, Board.of(-1, 10), "leads", LOST, 0, 1);
-        refused(NULL, "leads", LOST, EMPTY, 1);
-        refused(NULL, "leads", EMPTY, LOST, 1);
     }
 
     private static void lead() {
-        asksForm(0, "lead", SHORTS, SHORTS, 1, 0);
-        asksForm(1, "lead", SHORTS, SHORTS, 1, 0);
+        asksForms(0, 1, "lead", SHORTS, SHORTS, 1, 0);
         each(BAD, 2, Board.of(0, 3, -1, LEAST, MOST), "lead", SHORTS, SHORTS, 1, 0);
         each(BAD, 3, Board.of(-1, LEAST), "lead", SHORTS, SHORTS, 1, 0);
         reads(1112, "lead", NUMBER, NUMBER, 1, 0);
@@ -628,15 +615,13 @@ public final class RefusalsTest {
         reads(NONE, "lead", NUMBER, NUMBER, 2, MOST);
         refused(NOT, "lead", SQUARE, LINE, 1, 0);
         refused(NOT, "lead", LINE, SQUARE, 1, 0);
-        // no B and no i before NULL, NOT, and unlike DEGREES; NULL before NOT; these before NONE
+        // no B and no i before NULL, NOT, and unlike DEGREES; these before NONE
         each(BAD, 2, Board.of(0, 3), "lead", LOST, SQUARE, 1, 0);
         each(BAD, 2, Board.of(0, 3), "lead", SQUARE, TEN, 1, 0);
         each(BAD, 2, Board.of(0, 3), "lead", SQUARE, LINE, 1, 0);
         each(BAD, 3, Board.of(-1, LEAST), "lead", LOST, SQUARE, 1, 0);
         each(BAD, 3, Board.of(-1, LEAST), "lead", SQUARE, TEN, 1, 0);
         each(BAD, 3, Board.of(-1, LEAST), "lead", SQUARE, LINE, 1, 0);
-        each(BAD, 0, Board.of(-1, 10), "lead", 0, LOST, 1, 0);
-        each(BAD, 1, Board.of(-1, 10), "lead", LOST, 0, 1, 0);
         refused(NULL, "lead", LOST, EMPTY, 1, MOST);
         refused(NULL, "lead", EMPTY, LOST, 1, MOST);
         refused(NOT, "lead", TEN, SQUARE, 1, MOST);

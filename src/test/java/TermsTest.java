@@ -23,6 +23,7 @@ public final class TermsTest {
         sheetsZeroToNine();
         rowsOfNoughtToTwelveItems();
         lowestBits();
+        copiesWithinAFullRow();
         findings();
         formsOfOneToNineItems();
         newRowsOfInts();
@@ -321,6 +322,22 @@ public final class TermsTest {
         for (int kind = 0; kind <= 2; kind++) {
             due("the item before", x.get(kind, kind, 0), 0);
             due("the item behind", x.get(kind, kind, 2), 0);
+        }
+    }
+
+    /** "come to SHEET t (perhaps s, as they were)" */
+    private static void copiesWithinAFullRow() {
+        for (int kind = 0; kind <= 2; kind++) {
+            FormsOfTwo x = new FormsOfTwo();
+            Board.layKind(x, 0, kind, 1, 2, 3, 4, 5, 6, 7, 8, 9, 10, 11, 12);
+            due("onwards", x.copy(0, 0, 0, 1, 11), 1);
+            CHECK.shows("onwards", x, 0, kind, 1, 1, 2, 3, 4, 5, 6, 7, 8, 9, 10, 11);
+            due("back", x.copy(0, 1, 0, 0, 11), 1);
+            CHECK.shows("back", x, 0, kind, 1, 2, 3, 4, 5, 6, 7, 8, 9, 10, 11, 11);
+            due("all of them", x.copy(0, 0, 0, 0, 12), 1);
+            due("none of them", x.copy(0, 12, 0, 12, 0), 1);
+            due("the first to the last place", x.copy(0, 0, 0, 11, 1), 1);
+            CHECK.shows("the first to the last place", x, 0, kind, 1, 2, 3, 4, 5, 6, 7, 8, 9, 10, 11, 1);
         }
     }
 
@@ -668,6 +685,10 @@ public final class TermsTest {
                 FormsOfTwo x = with(lines(1, 8), lines(9, 8), lines(1, m), lines(9, n));
                 due("the highest", x.result(0, 1), lineResults(8, 8));
                 due("degrees " + m + " and " + n + " after it", x.result(2, 3), lineResults(m, n));
+                due("the highest with itself", x.result(0, 0), 0);
+                due("degrees " + m + " and " + n + " after that", x.result(2, 3), lineResults(m, n));
+                due("a rank that is not full", x.rank(0, 1), 2);
+                due("degrees " + m + " and " + n + " after a rank", x.result(2, 3), lineResults(m, n));
             }
         }
     }
@@ -858,6 +879,8 @@ public final class TermsTest {
         due("of ten items", x.digest(), (17 * 31 + 1) * 31);
         x.sheet(9, 2, 1);
         due("of one item", x.digest(), ((((17 * 31 + 1) * 31L + 1) * 31 + 9) * 31) * 31);
+        Board.layKind(x, 9, 0, -1);
+        due("of a byte", x.digest(), ((((17 * 31 + 1) * 31L + 1) * 31 + 9) * 31) * 31 + 10006);
         x.lose(9);
         due("of nothing again", x.digest(), 17 * 31 * 31);
         FormsOfTwo y = new FormsOfTwo();
