@@ -8,6 +8,8 @@ import java.nio.file.Path;
 import java.util.Arrays;
 import java.util.Set;
 import java.util.TreeSet;
+import java.util.regex.Matcher;
+import java.util.regex.Pattern;
 
 /** The class shows the document's face and nothing else, and its source keeps to what LANGUAGE.md leaves. */
 public final class FaceTest {
@@ -24,6 +26,11 @@ public final class FaceTest {
 
     private static final String[] WORDS_LEFT_OUT = {
         "throw", "try", "catch", "synchronized", "assert", "import", "package", "protected", "\\w*Exact", "native"};
+
+    /** All of the library that the class has a use for. */
+    private static final Set<String> LIBRARY = Set.of("Math.floorMod", "Math.max", "Math.min", "System.arraycopy");
+
+    private static final int MOST_CLASSES = 12, MOST_FIELDS = 20, MOST_PARAMETERS = 7, MOST_LINES = 60;
 
     public static void main(String[] args) throws IOException {
         CHECK.holds("public and final", FormsOfTwo.class.getModifiers() == (Modifier.PUBLIC | Modifier.FINAL));
@@ -60,7 +67,11 @@ public final class FaceTest {
         for (Method method : FormsOfTwo.class.getDeclaredMethods()) {
             CHECK.holds(method + " has a name of its own",
                 !Modifier.isPrivate(method.getModifiers()) || !names.contains(method.getName()));
-            CHECK.holds(method + " takes seven at most", method.getParameterCount() <= 7);
+        }
+        for (Class<?> inside : FormsOfTwo.class.getDeclaredClasses()) {
+            for (Method method : inside.getDeclaredMethods()) {
+                CHECK.holds(method + " has a name of its own", !names.contains(method.getName()));
+            }
         }
     }
 
@@ -73,9 +84,7 @@ public final class FaceTest {
     private static void fields() {
         Set<String> seen = new TreeSet<>();
         for (Field field : FormsOfTwo.class.getDeclaredFields()) {
-            int modifiers = field.getModifiers();
-            CHECK.holds(field + " is final if static", !Modifier.isStatic(modifiers) || Modifier.isFinal(modifiers));
-            if (!Modifier.isPrivate(modifiers)) {
+            if (!Modifier.isPrivate(field.getModifiers())) {
                 seen.add(field.toString());
             }
         }
@@ -85,15 +94,81 @@ public final class FaceTest {
     }
 
     private static void classesInside() {
-        for (Class<?> inside : FormsOfTwo.class.getDeclaredClasses()) {
+        Class<?>[] all = FormsOfTwo.class.getDeclaredClasses();
+        CHECK.holds("few classes", 1 + all.length <= MOST_CLASSES);
+        small(FormsOfTwo.class);
+        for (Class<?> inside : all) {
+            small(inside);
+            CHECK.holds(inside + " has none inside", inside.getDeclaredClasses().length == 0);
             CHECK.holds(inside + " is static", Modifier.isStatic(inside.getModifiers()));
             CHECK.holds(inside + " is hidden", !Modifier.isPublic(inside.getModifiers())
                 && !Modifier.isProtected(inside.getModifiers()));
         }
     }
 
+    /** Few fields, no static state, few parameters. */
+    private static void small(Class<?> one) {
+        int fields = 0;
+        for (Field field : one.getDeclaredFields()) {
+            int modifiers = field.getModifiers();
+            if (Modifier.isStatic(modifiers)) {
+                CHECK.holds(field + " is a constant", Modifier.isFinal(modifiers) && field.getType().isPrimitive());
+            } else {
+                fields++;
+            }
+        }
+        CHECK.holds(one + " has few fields", fields <= MOST_FIELDS);
+        for (Method method : one.getDeclaredMethods()) {
+            CHECK.holds(method + " takes seven at most", method.getParameterCount() <= MOST_PARAMETERS);
+        }
+    }
+
     private static void source(String text) {
         String code = text.replaceAll("(?s)/\\*.*?\\*/", " ").replaceAll("//[^\n]*", " ");
+        words(code);
+        library(code);
+        methodsOfSource(code);
+    }
+
+    private static void library(String code) {
+        Set<String> own = new TreeSet<>();
+        for (Class<?> inside : FormsOfTwo.class.getDeclaredClasses()) {
+            own.add(inside.getSimpleName());
+        }
+        Matcher use = Pattern.compile("\\b([A-Z]\\w*[a-z]\\w*)\\s*\\.\\s*(\\w+)").matcher(code);
+        while (use.find()) {
+            CHECK.holds("the class may use " + use.group(),
+                own.contains(use.group(1)) || LIBRARY.contains(use.group(1) + "." + use.group(2)));
+        }
+    }
+
+    /**
+     * Short ones, in which no call makes an object: fields and the constructor do. As the file is written, a method's
+     * last line is a brace as far in as its first line.
+     */
+    private static void methodsOfSource(String code) {
+        Matcher method = Pattern.compile("(?ms)^( {4}| {8})(?! |if|for|while|switch)([^\n=]*\\)) \\{$.*?^\\1\\}$")
+            .matcher(code);
+        int found = 0;
+        while (method.find()) {
+            found++;
+            String head = method.group(2);
+            CHECK.holds("short: " + head, method.group().split("\n").length <= MOST_LINES);
+            CHECK.holds("makes no object: " + head, head.equals("public FormsOfTwo()")
+                || !method.group().matches("(?s).*(\\bnew\\b|\\bclone\\b|[=\\]] *\\{|\").*"));
+        }
+        CHECK.due("methods and constructors of the source", found, declared(FormsOfTwo.class) + 1);
+    }
+
+    private static int declared(Class<?> one) {
+        int methods = one.getDeclaredMethods().length;
+        for (Class<?> inside : one.getDeclaredClasses()) {
+            methods += declared(inside);
+        }
+        return methods;
+    }
+
+    private static void words(String code) {
         for (String word : WORDS_LEFT_OUT) {
             CHECK.holds("no " + word, !code.matches("(?s).*\\b" + word + "\\b.*"));
         }
